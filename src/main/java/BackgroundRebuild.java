@@ -502,7 +502,7 @@ public final class BackgroundRebuild {
         private final int[] keys = new int[MOST_NODES];
         private final int[] depths = new int[MOST_NODES];
         private final boolean[] marks = new boolean[MOST_NODES];
-        private int nodes;
+        int nodes;
 
         void becomeCopyOf(Tree other) {
             nodes = other.nodes;
@@ -726,13 +726,13 @@ public final class BackgroundRebuild {
 
     /** A rebuild; while none is running, its tree, its list and its queue are empty. */
     private static final class Rebuild {
-        private final Tree secondTree = new Tree();
+        final Tree secondTree = new Tree();
         private final int[] list = new int[MOST_NODES];
-        private int listed;
-        private int copied;
-        private final int[] queue = new int[MOST_QUEUED];
-        private int waiting;
-        private boolean running;
+        int listed;
+        int copied;
+        final int[] queue = new int[MOST_QUEUED];
+        int waiting;
+        boolean running;
 
         void becomeCopyOf(Rebuild other) {
             secondTree.becomeCopyOf(other.secondTree);
@@ -850,7 +850,7 @@ public final class BackgroundRebuild {
         private static final int ERROR = 503;
 
         private final char[] characters = new char[MOST_CHARACTERS];
-        private int length;
+        int length;
 
         void put(int code) {
             if (length < MOST_CHARACTERS) {

@@ -190,6 +190,10 @@ public final class PromiseTest {
         Checks.due("3 keys 0 and 499", x.remove(0) + x.remove(499), 0);
         Checks.due("3 saved states", x.count(7), 6);
         refusesEach("3 remove", x, ILLEGAL, key -> x.remove(key), WRONG_KEYS);
+        BackgroundRebuild y = quiet(50, 20, 80);
+        y.remove(80);
+        y.add(10);
+        Checks.due("3 marks stay with their nodes", keysOf(y, false), "50 20 10 80*");
         Checks.due("3 an empty tree", new BackgroundRebuild().remove(5), 0);
     }
 
@@ -343,6 +347,13 @@ public final class PromiseTest {
         error("+1/", 2);
         error("+1:", 2);
         BackgroundRebuild x = new BackgroundRebuild();
+        type(x, "+100;+120;-100;+140;-120;+160;-140;+180;-160;+199;-180;+20;.");
+        Checks.due("10 sixty characters", x.firstError(), 60);
+        x.clearBuffer();
+        type(x, ".;.;.;.;.;.;.;.;.;.;.;.;.;.;.;.;.;.;.;.;.;.;.;.;.;.;.;.;.;.;");
+        Checks.due("10 a text may go on behind the sixtieth", x.firstError(), 60);
+        Checks.throwsJust("10 but it is not complete", ILLEGAL, () -> x.execute());
+        x.clearBuffer();
         type(x, "+5;+3;-5;.;+500");
         Checks.due("10 of the document's test", x.firstError(), 14);
         Checks.due("10 twice", x.firstError(), 14);
@@ -389,6 +400,9 @@ public final class PromiseTest {
         Checks.due("11 acts", x.count(3), acts + 3);
         Checks.due("11 not the ones behind it", x.contains(9), true);
         Checks.due("11 cleared", x.count(8), 0);
+        type(x, "-0;+0");
+        Checks.due("11 a removal does not throw", x.execute(), 2);
+        x.undo();
         type(x, "+120;.");
         Checks.due("11 none", x.execute(), 0);
         Checks.due("11 cleared", x.count(8), 0);
@@ -492,10 +506,14 @@ public final class PromiseTest {
                 Checks.due("16 near " + keys[i] + " " + what, x.near(keys[i], what), due[i][what]);
             }
         }
-        BackgroundRebuild empty = new BackgroundRebuild();
+        BackgroundRebuild y = new BackgroundRebuild();
         for (int what = 0; what < 4; what++) {
-            Checks.due("16 none", empty.near(250, what), -1);
+            Checks.due("16 none", y.near(250, what) + y.near(0, what) + y.near(499, what), -3);
         }
+        y.add(7);
+        Checks.due("16 only a root", y.near(7, 0) + " " + y.near(7, 1) + " " + y.near(7, 2) + " " + y.near(7, 3), "7 7 -1 -1");
+        Checks.due("16 beside it", y.near(8, 0) + " " + y.near(8, 2) + " " + y.near(6, 1) + " " + y.near(6, 3), "7 7 7 7");
+        Checks.due("16 on the other side", y.near(6, 0) + " " + y.near(6, 2) + " " + y.near(8, 1) + " " + y.near(8, 3), "-1 -1 -1 -1");
         refusesEach("16 key", x, ILLEGAL, key -> x.near(key, 0), WRONG_KEYS);
         refusesEach("16 what", x, ILLEGAL, what -> x.near(5, what), -1, 4, LEAST, GREATEST);
     }
@@ -503,6 +521,7 @@ public final class PromiseTest {
     private static void promise17Rank() {
         BackgroundRebuild x = quiet(20, 10, 30, 0, 499);
         x.remove(20);
+        Checks.due("17 a root", quiet(7, 3).rank(8), 2);
         Checks.due("17 ranks", x.rank(0) + " " + x.rank(1) + " " + x.rank(10) + " " + x.rank(20) + " " + x.rank(30)
                 + " " + x.rank(31) + " " + x.rank(499), "0 1 1 2 2 3 3");
         refusesEach("17 key", x, ILLEGAL, key -> x.rank(key), WRONG_KEYS);
@@ -514,7 +533,12 @@ public final class PromiseTest {
         Checks.due("18 keys", x.keyAt(0) + " " + x.keyAt(1) + " " + x.keyAt(2) + " " + x.keyAt(3) + " " + x.keyAt(4)
                 + " " + x.keyAt(GREATEST), "0 10 30 499 -1 -1");
         refusesEach("18 rank", x, ILLEGAL, rank -> x.keyAt(rank), -1, LEAST);
-        Checks.due("18 empty", new BackgroundRebuild().keyAt(0), -1);
+        BackgroundRebuild y = new BackgroundRebuild();
+        Checks.due("18 empty", y.keyAt(0), -1);
+        y.add(0);
+        Checks.due("18 one key", y.keyAt(0) + " " + y.keyAt(1), "0 -1");
+        y.undo();
+        Checks.due("18 empty again", y.keyAt(0), -1);
     }
 
     private static void promise19Node() {
@@ -534,11 +558,17 @@ public final class PromiseTest {
         x.idle();
         Checks.due("19 second tree", keysOf(x, true), "50 30");
         Checks.due("19 second tree", x.node(true, 0, 3) + " " + x.node(true, 1, 2) + " " + x.node(true, 2, 0), "2 2 -1");
-        for (boolean second : new boolean[] {false, true}) {
-            refusesEach("19 node", x, ILLEGAL, node -> x.node(second, node, 0), -1, LEAST);
-            refusesEach("19 what", x, ILLEGAL, what -> x.node(second, 0, what), -1, 5, LEAST, GREATEST);
-            refused("19 what of no node", x, ILLEGAL, () -> x.node(second, 300, 5));
-        }
+        refusesNodes(false);
+        refusesNodes(true);
+    }
+
+    private static void refusesNodes(boolean second) {
+        BackgroundRebuild x = quiet(2, 1, 3);
+        x.begin();
+        x.idle();
+        refusesEach("19 node", x, ILLEGAL, node -> x.node(second, node, 0), -1, LEAST);
+        refusesEach("19 what", x, ILLEGAL, what -> x.node(second, 0, what), -1, 5, LEAST, GREATEST);
+        refused("19 what of no node", x, ILLEGAL, () -> x.node(second, 300, 5));
     }
 
     private static void promise20Path() {
@@ -586,6 +616,7 @@ public final class PromiseTest {
             Checks.due("21 least depth of " + n, y.tree(false, 6), least[n]);
             y.add(10 * n);
         }
+        Checks.due("21 one node", treeOf(quiet(5), false), "1 1 0 1 1 1 1");
         Checks.due("21 least depth of 120", full().tree(false, 6), 7);
         refusesEach("21 what", x, ILLEGAL, what -> x.tree(false, what), -1, 7, LEAST, GREATEST);
         refusesEach("21 what", x, ILLEGAL, what -> x.tree(true, what), -1, 7, LEAST, GREATEST);
