@@ -1,3 +1,6 @@
+import java.lang.reflect.Field;
+import java.lang.reflect.Method;
+import java.lang.reflect.Modifier;
 import java.nio.charset.StandardCharsets;
 import java.nio.file.Files;
 import java.nio.file.Path;
@@ -29,7 +32,42 @@ public final class LanguageTest {
             Checks.due("the program has " + ruledOut, matcher.find(), false);
         }
         checkThrows(code);
+        checkLengths(code.split("\n"));
+        Class<?>[] inside = BackgroundRebuild.class.getDeclaredClasses();
+        Checks.due("at most twelve classes", inside.length < 12, true);
+        checkClass(BackgroundRebuild.class);
+        for (Class<?> one : inside) {
+            checkClass(one);
+        }
         Checks.end("LanguageTest");
+    }
+
+    /** Rules 5 and 11: final static fields, at most twenty other fields, at most seven parameters. */
+    private static void checkClass(Class<?> one) {
+        int fields = 0;
+        for (Field field : one.getDeclaredFields()) {
+            boolean constant = Modifier.isStatic(field.getModifiers());
+            fields += constant ? 0 : 1;
+            Checks.due(field + " is static, but not final", constant && !Modifier.isFinal(field.getModifiers()), false);
+        }
+        Checks.due(one + " has at most twenty fields", fields <= 20, true);
+        for (Method method : one.getDeclaredMethods()) {
+            Checks.due(method + " has at most seven parameters", method.getParameterCount() <= 7, true);
+        }
+    }
+
+    /** Rule 11: methods of at most sixty lines. */
+    private static void checkLengths(String[] lines) {
+        for (int from = 0; from < lines.length; from++) {
+            Matcher head = Pattern.compile("( +)[^ ].*\\) (throws .*)?\\{").matcher(lines[from]);
+            if (head.matches()) {
+                int to = from;
+                while (to < lines.length && !lines[to].equals(head.group(1) + "}")) {
+                    to++;
+                }
+                Checks.due(lines[from].trim() + " has at most sixty lines", to - from < 60, true);
+            }
+        }
     }
 
     private static void checkThrows(String code) {

@@ -1,12 +1,7 @@
 import java.util.function.IntConsumer;
 
 /** The promises of ../shared/DOC.md, one method each: ordinary inputs, the named edges, and wrong inputs. */
-public final class PromiseTest {
-    private static final Class<IllegalArgumentException> ILLEGAL = IllegalArgumentException.class;
-    private static final Class<IllegalStateException> STATE = IllegalStateException.class;
-    private static final Class<IndexOutOfBoundsException> BOUNDS = IndexOutOfBoundsException.class;
-    private static final int LEAST = Integer.MIN_VALUE;
-    private static final int GREATEST = Integer.MAX_VALUE;
+public final class PromiseTest extends Scenes {
     private static final int[] WRONG_SPEEDS = {0, 9, -1, LEAST, GREATEST};
     private static final int[] WRONG_KEYS = {-1, 500, LEAST, GREATEST};
 
@@ -47,50 +42,6 @@ public final class PromiseTest {
         termsQueueOverflow();
         termsMarkedInSecondTree();
         Checks.end("PromiseTest");
-    }
-
-    // ---- ways to make objects
-
-    /** A tree in which no rebuild begins by itself before the depth is above 40. */
-    private static BackgroundRebuild quiet(int... keys) {
-        BackgroundRebuild x = new BackgroundRebuild();
-        x.set(0, 100);
-        x.set(1, 40);
-        for (int key : keys) {
-            x.add(key);
-        }
-        return x;
-    }
-
-    /** 0 to 119 in an order that keeps the tree low. */
-    private static BackgroundRebuild full() {
-        BackgroundRebuild x = quiet();
-        for (int i = 0; i < 120; i++) {
-            x.add(i * 77 % 120);
-        }
-        return x;
-    }
-
-    private static void type(BackgroundRebuild x, String text) {
-        for (int i = 0; i < text.length(); i++) {
-            x.append(text.charAt(i));
-        }
-    }
-
-    private static String keysOf(BackgroundRebuild x, boolean second) {
-        StringBuilder keys = new StringBuilder();
-        for (int i = 0; x.node(second, i, 0) != BackgroundRebuild.NONE; i++) {
-            keys.append(i == 0 ? "" : " ").append(x.node(second, i, 0)).append(x.node(second, i, 1) == 1 ? "*" : "");
-        }
-        return keys.toString();
-    }
-
-    private static String queueOf(BackgroundRebuild x) {
-        StringBuilder acts = new StringBuilder();
-        for (int i = 0; x.queued(i) != BackgroundRebuild.NONE; i++) {
-            acts.append(i == 0 ? "" : " ").append(x.queued(i));
-        }
-        return acts.toString();
     }
 
     /** All that a throwing call must leave as it is. */
@@ -585,22 +536,6 @@ public final class PromiseTest {
         refusesEach("20 index", x, ILLEGAL, index -> x.path(5, index), -1, LEAST);
     }
 
-    private static String pathOf(BackgroundRebuild x, int key) {
-        StringBuilder keys = new StringBuilder();
-        for (int i = 0; x.path(key, i) != BackgroundRebuild.NONE; i++) {
-            keys.append(i == 0 ? "" : " ").append(x.path(key, i));
-        }
-        return keys.toString();
-    }
-
-    private static String treeOf(BackgroundRebuild x, boolean second) {
-        StringBuilder numbers = new StringBuilder();
-        for (int what = 0; what < 7; what++) {
-            numbers.append(what == 0 ? "" : " ").append(x.tree(second, what));
-        }
-        return numbers.toString();
-    }
-
     private static void promise21Tree() {
         BackgroundRebuild x = quiet(50, 20, 80, 10, 30, 70, 25);
         x.remove(20);
@@ -620,14 +555,6 @@ public final class PromiseTest {
         Checks.due("21 least depth of 120", full().tree(false, 6), 7);
         refusesEach("21 what", x, ILLEGAL, what -> x.tree(false, what), -1, 7, LEAST, GREATEST);
         refusesEach("21 what", x, ILLEGAL, what -> x.tree(true, what), -1, 7, LEAST, GREATEST);
-    }
-
-    private static String rebuildOf(BackgroundRebuild x) {
-        StringBuilder numbers = new StringBuilder();
-        for (int what = 0; what < 6; what++) {
-            numbers.append(what == 0 ? "" : " ").append(x.rebuild(what));
-        }
-        return numbers.toString();
     }
 
     private static void promise22Rebuild() {
